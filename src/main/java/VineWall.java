@@ -7,6 +7,7 @@ public final class VineWall {
     private static final int ROWS = 8, COLUMNS = 12;
     private static final int MOST_GENERATIONS = 60, MOST_PLANTED = 4, MOST_CUTS = 3;
     private static final int LEAST_BEARING = 1, FIRST_BEARING = 5, MOST_BEARING = 8;
+    private static final int HALF_OF_ROWS = 4;
 
     private final Wall wall = new Wall();
     // What might become of the wall is tried on these two, made once so that no call makes anything.
@@ -187,8 +188,8 @@ public final class VineWall {
     }
 
     private void remember(int ahead) {
-        lowerHalves[ahead] = trial.leavesOfFourRows(0);
-        upperHalves[ahead] = trial.leavesOfFourRows(ROWS / 2);
+        lowerHalves[ahead] = trial.leavesOfHalf(0);
+        upperHalves[ahead] = trial.leavesOfHalf(HALF_OF_ROWS);
     }
 
     private boolean looksAsBefore(int ahead, int firstToCompare) {
@@ -221,15 +222,15 @@ public final class VineWall {
 
         private static final int MOST_HOLDERS_TO_SPROUT = 2, MOST_NEIGHBOURS_TO_SPROUT = 3, MOST_SHADE_TO_SPROUT = 2;
         private static final int MOST_NEIGHBOURS_TO_STAY = 5, MOST_SHADE_TO_STAY = 4;
-        // A row as it is seen has one cell more on each side, so the bits c to c + 2 of it
-        // are the cell to the left of column c, the cell of column c, and the one to the right.
+        // A row as it is seen has one cell more on each side: moved to the right by c, its lowest three
+        // bits are the cell to the left of column c, the cell of column c, and the one to the right.
         private static final int ALL_THREE = 7, BOTH_OUTER = 5;
 
         private final int[] leafRows = new int[ROWS];
         private final int[] cutRows = new int[ROWS];
 
         boolean hasLeafAt(int row, int column) {
-            return (leafRow(row) >> column & 1) == 1;
+            return ((leafRow(row) >> column) & 1) == 1;
         }
 
         boolean isBareAt(int row, int column) {
@@ -274,19 +275,20 @@ public final class VineWall {
         int shadeAt(int row, int column) {
             int shade = 0;
             for (int above = row + 1; above < ROWS; above++) {
-                shade += leafRow(above) >> column & 1;
+                shade += (leafRow(above) >> column) & 1;
             }
             return shade;
         }
 
         int holdersAt(int row, int column, int side) {
-            return countSeen(row - 1, column, side, ALL_THREE);
+            return countHolders(leafRowAsSeen(row - 1, side) >> column);
         }
 
         int neighboursAt(int row, int column, int side) {
-            return countSeen(row - 1, column, side, ALL_THREE)
-                + countSeen(row, column, side, BOTH_OUTER)
-                + countSeen(row + 1, column, side, ALL_THREE);
+            return countNeighbours(
+                leafRowAsSeen(row - 1, side) >> column,
+                leafRowAsSeen(row, side) >> column,
+                leafRowAsSeen(row + 1, side) >> column);
         }
 
         int countInColumn(int column) {
@@ -311,16 +313,17 @@ public final class VineWall {
             return Integer.bitCount(columnsWithLeaf);
         }
 
-        long leavesOfFourRows(int firstRow) {
+        long leavesOfHalf(int firstRow) {
             long leaves = 0;
-            for (int row = firstRow; row < firstRow + 4; row++) {
-                leaves = leaves << COLUMNS | leafRow(row);
+            for (int row = firstRow; row < firstRow + HALF_OF_ROWS; row++) {
+                leaves = (leaves << COLUMNS) | leafRow(row);
             }
             return leaves;
         }
 
-        /** Makes of this wall what the wall before becomes; returns how many leaves broke off. */
+        /** Makes of this wall what another one becomes; returns how many leaves broke off. */
         int becomeNextOf(Wall before, int side, int[] bearings) {
+            // The one before is left as it is: all its cells change at once.
             for (int row = 0; row < ROWS; row++) {
                 leafRows[row] = before.leafRowNext(row, side);
                 cutRows[row] = 0;
@@ -336,31 +339,31 @@ public final class VineWall {
             if (row == 0) {
                 return leafRow(0);
             }
+            int below = leafRowAsSeen(row - 1, side);
+            int beside = leafRowAsSeen(row, side);
+            int above = leafRowAsSeen(row + 1, side);
             int next = 0;
             for (int column = 0; column < COLUMNS; column++) {
-                boolean bears = hasLeafAt(row, column)
-                    ? leafStays(row, column, side)
-                    : leafSprouts(row, column, side);
-                if (bears) {
+                int holders = countHolders(below >> column);
+                int neighbours = countNeighbours(below >> column, beside >> column, above >> column);
+                if (bearsLeafNext(row, column, holders, neighbours)) {
                     next |= 1 << column;
                 }
             }
             return next;
         }
 
-        private boolean leafStays(int row, int column, int side) {
-            return holdersAt(row, column, side) > 0
-                && neighboursAt(row, column, side) <= MOST_NEIGHBOURS_TO_STAY
-                && shadeAt(row, column) <= MOST_SHADE_TO_STAY;
-        }
-
-        private boolean leafSprouts(int row, int column, int side) {
-            int holders = holdersAt(row, column, side);
-            return holders > 0
-                && holders <= MOST_HOLDERS_TO_SPROUT
-                && !hasCutAt(row, column)
-                && neighboursAt(row, column, side) <= MOST_NEIGHBOURS_TO_SPROUT
-                && shadeAt(row, column) <= MOST_SHADE_TO_SPROUT;
+        private boolean bearsLeafNext(int row, int column, int holders, int neighbours) {
+            if (holders == 0 || hasCutAt(row, column)) {
+                return false;
+            }
+            int shade = shadeAt(row, column);
+            if (hasLeafAt(row, column)) {
+                return neighbours <= MOST_NEIGHBOURS_TO_STAY && shade <= MOST_SHADE_TO_STAY;
+            }
+            return holders <= MOST_HOLDERS_TO_SPROUT
+                && neighbours <= MOST_NEIGHBOURS_TO_SPROUT
+                && shade <= MOST_SHADE_TO_SPROUT;
         }
 
         private int takeTopmost(int column, int tooMany) {
@@ -381,26 +384,32 @@ public final class VineWall {
         }
 
         private boolean hasCutAt(int row, int column) {
-            return row >= 0 && row < ROWS && (cutRows[row] >> column & 1) == 1;
+            return row >= 0 && row < ROWS && ((cutRows[row] >> column) & 1) == 1;
         }
 
         private int leafRow(int row) {
-            return row < 0 || row >= ROWS ? 0 : leafRows[row];
+            return row >= 0 && row < ROWS ? leafRows[row] : 0;
         }
 
-        private int countSeen(int row, int column, int side, int which) {
-            return Integer.bitCount(leafRowAsSeen(row, side) >> column & which);
+        private static int countHolders(int below) {
+            return Integer.bitCount(below & ALL_THREE);
+        }
+
+        private static int countNeighbours(int below, int beside, int above) {
+            return Integer.bitCount(below & ALL_THREE)
+                + Integer.bitCount(beside & BOTH_OUTER)
+                + Integer.bitCount(above & ALL_THREE);
         }
 
         private int leafRowAsSeen(int row, int side) {
             int leafRow = leafRow(row);
             int first = leafRow & 1;
-            int last = leafRow >> COLUMNS - 1 & 1;
+            int last = (leafRow >> (COLUMNS - 1)) & 1;
             int seen = leafRow << 1;
             if (side == ROUND) {
-                seen |= last | first << COLUMNS + 1;
+                seen |= last | (first << (COLUMNS + 1));
             } else if (side == MIRROR) {
-                seen |= first | last << COLUMNS + 1;
+                seen |= first | (last << (COLUMNS + 1));
             }
             return seen;
         }

@@ -615,6 +615,10 @@ public final class PromisesTest {
         Check.due("a cut cell is no leaf to cut", wall.bestCut(), 11);
         wall.cut(0, 11);
         Check.due("bestCut() with cut cells alone", wall.bestCut(), -1);
+        duePicture("two cut in one row", wall, "x..........x");
+        wall.clear();
+        wall.plant(0);
+        Check.due("bestCut() of the first cell", wall.bestCut(), 0);
     }
 
     private static void promise19AfterTheEnd() {
