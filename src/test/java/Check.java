@@ -28,6 +28,15 @@ final class Check {
         due(what, thrownBy(call), "nothing thrown");
     }
 
+    /** A test of its own for one sentence of the document: what throws in it does not keep the others from running. */
+    static void edge(String sentence, Call test) {
+        int wrongBefore = wrong;
+        dueNoThrow("the test", test);
+        if (wrong > wrongBefore) {
+            System.out.println("broken: " + sentence);
+        }
+    }
+
     private static String thrownBy(Call call) {
         try {
             call.run();
