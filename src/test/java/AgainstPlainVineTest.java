@@ -15,6 +15,7 @@ public final class AgainstPlainVineTest {
 
     private final int run;
     private final int style;
+    private final boolean hurried;
     private final VineWall wall = new VineWall();
     private final PlainVine plain = new PlainVine();
     private int calls = 0;
@@ -22,6 +23,7 @@ public final class AgainstPlainVineTest {
     private AgainstPlainVineTest(int run) {
         this.run = run;
         this.style = run / 3 % 4;
+        this.hurried = run / 12 % 2 == 1;
     }
 
     public static void main(String[] args) {
@@ -65,7 +67,7 @@ public final class AgainstPlainVineTest {
         int column = pick(40) == 0 ? pick(16) - 2 : pick(12);
         switch (pick(20)) {
             case 0, 1, 2:
-                same("grow", wall::grow, plain::grow);
+                growAWhile();
                 break;
             case 3, 4, 5:
                 prune(row, column);
@@ -88,6 +90,15 @@ public final class AgainstPlainVineTest {
             default:
                 askOfCell(row, column);
                 break;
+        }
+    }
+
+    /** A run that does not hurry rarely comes to the end of a game; a hurried one rests just before it, and at it. */
+    private void growAWhile() {
+        int beforeTheLast = 59 - plain.generation();
+        int times = hurried && beforeTheLast > 1 ? Math.min(beforeTheLast, 1 + pick(16)) : 1;
+        for (int time = 0; time < times; time++) {
+            same("grow", wall::grow, plain::grow);
         }
     }
 
@@ -116,7 +127,14 @@ public final class AgainstPlainVineTest {
                 sameOrder("clear", wall::clear, plain::clear);
                 break;
             default:
+                clearAtTheEnd();
                 break;
+        }
+    }
+
+    private void clearAtTheEnd() {
+        if (plain.generation() == 60) {
+            sameOrder("clear", wall::clear, plain::clear);
         }
     }
 

@@ -30,6 +30,10 @@ public final class EdgesOfAnswersTest {
         Check.edge("Promise 1: A bare wall", EdgesOfAnswersTest::newWallIsBare);
         Check.edge("Promise 1: BARE beyond the sides", EdgesOfAnswersTest::newWallHasBareSides);
         Check.edge("Promise 1: each trellis bears 5 leaves: no sixth one", EdgesOfAnswersTest::newTrellisesBearFive);
+        Check.edge("Promise 1: A new object: nothing of another one is in it",
+            EdgesOfAnswersTest::newBesideAnother);
+        Check.edge("Promise 1: A new object: what is said to it, is said to no other one",
+            EdgesOfAnswersTest::anotherBesideNew);
         Check.edge("Promise 1: an object is used for at most 512 calls: the 512th is answered as the first",
             EdgesOfAnswersTest::the512thCall);
     }
@@ -68,6 +72,8 @@ public final class EdgesOfAnswersTest {
         Check.edge("Promise 14: The generations that have gone by: 0 to 60", EdgesOfAnswersTest::generationsGoneBy);
         Check.edge("Promise 15: The cuts that are left: 3 at first, then 0, and 3 again",
             EdgesOfAnswersTest::cutsThatAreLeft);
+        Check.edge("Promise 15: .. before the next generation: behind the last one too",
+            EdgesOfAnswersTest::cutsLeftBehindTheLast);
     }
 
     private static void broken() {
@@ -77,6 +83,8 @@ public final class EdgesOfAnswersTest {
             EdgesOfAnswersTest::brokenFromTrellisesAlone);
         Check.edge("Promise 16: .. in the whole game: of all generations together",
             EdgesOfAnswersTest::brokenInTheWholeGame);
+        Check.edge("Promise 16: .. in the whole game: of the last generation too",
+            EdgesOfAnswersTest::brokenInTheLast);
     }
 
     private static void leavesNext() {
@@ -109,6 +117,8 @@ public final class EdgesOfAnswersTest {
             EdgesOfAnswersTest::mostLitLeaves);
         Check.edge("Promise 19: .. also if that are fewer than with it, or none",
             EdgesOfAnswersTest::bestOfBadCuts);
+        Check.edge("Promise 19: The leaf that would best be cut: its cell stays dead for the next generation",
+            EdgesOfAnswersTest::bestCutStaysDead);
         Check.edge("Promise 19: of several the one in the lowest row", EdgesOfAnswersTest::lowestRow);
         Check.edge("Promise 19: .. then in the lowest column", EdgesOfAnswersTest::lowestColumn);
         Check.edge("Promise 19: also if no cut is left", EdgesOfAnswersTest::bestWithoutACutLeft);
@@ -199,6 +209,44 @@ public final class EdgesOfAnswersTest {
         }
         Check.due("leavesIn(0): five are borne", outermost.leavesIn(0), 5);
         Check.due("broken(): the sixth is not", outermost.broken(), 1);
+    }
+
+    /** A game with nothing in it as in a new one, the sides and each trellis among it. */
+    private static Play another() {
+        return new Play(MIRROR, 2).plant(0, 3, 6, 11).grow(4).cut(0, 3);
+    }
+
+    private static String told(VineWall wall) {
+        return Play.picture(wall) + wall.leavesNext() + " " + wall.repeatsIn() + " " + wall.bestCut() + " "
+            + wall.generation() + " " + wall.cutsLeft() + " " + wall.broken() + " " + wall.neighboursOf(0, 0);
+    }
+
+    private static void newBesideAnother() {
+        String alone = told(new VineWall());
+        Check.due("broken() of the other one", another().wall().broken() > 0, true);
+        Check.due("what a new one tells", told(new VineWall()), alone);
+        newWallIsBare();
+        newWallHasBareSides();
+        newTrellisesBearFive();
+    }
+
+    private static void anotherBesideNew() {
+        VineWall other = another().wall();
+        String before = told(other);
+        VineWall wall = new VineWall();
+        wall.sides(ROUND);
+        wall.trellis(3, 8);
+        wall.plant(5);
+        wall.grow();
+        wall.cut(0, 5);
+        told(wall);
+        Check.due("what the other one tells", told(other), before);
+        wall.clear();
+        Check.due("what the other one tells behind clear()", told(other), before);
+        Check.dueThrow("a fifth one planted in the other one", IllegalStateException.class, () -> other.plant(5));
+        for (int column = 0; column < 12; column++) {
+            Check.due("trellis(" + column + ", 5) of the other one", other.trellis(column, 5), 2);
+        }
     }
 
     private static void the512thCall() {
@@ -328,6 +376,15 @@ public final class EdgesOfAnswersTest {
         Check.due("cutsLeft() at the end", new Play(BARE, 5).grow(60).wall().cutsLeft(), 3);
     }
 
+    private static void cutsLeftBehindTheLast() {
+        VineWall wall = new Play(BARE, 5).plant(2, 5, 8).grow(59).cut(0, 2).cut(0, 5).wall();
+        Check.due("cutsLeft() at generation 59", wall.cutsLeft(), 1);
+        wall.grow();
+        Check.due("cutsLeft() at generation 60", wall.cutsLeft(), 3);
+        wall.cut(0, 8);
+        Check.due("cutsLeft() after a cut at generation 60", wall.cutsLeft(), 2);
+    }
+
     private static void brokenNone() {
         Check.due("broken() of a new wall", new VineWall().broken(), 0);
         Check.due("broken() with as many as are borne", new Play(BARE, 5).plant(0).grow(4).wall().broken(), 0);
@@ -349,6 +406,16 @@ public final class EdgesOfAnswersTest {
         wall.plant(0);
         wall.grow();
         Check.due("broken() of the next game alone", wall.broken(), 1);
+    }
+
+    private static void brokenInTheLast() {
+        VineWall wall = new Play(BARE, 5).plant(5).grow(59).wall();
+        Check.due("leavesIn(5) at generation 59", wall.leavesIn(5), 4);
+        Check.due("broken() at generation 59", wall.broken(), 0);
+        wall.trellis(5, 1);
+        wall.grow();
+        Check.due("leavesIn(5) at generation 60", wall.leavesIn(5), 1);
+        Check.due("broken() at generation 60", wall.broken(), 3);
     }
 
     private static void leavesNextWithoutWhatBreaks() {
@@ -430,7 +497,8 @@ public final class EdgesOfAnswersTest {
     }
 
     private static void repeatsWithWhatBreaks() {
-        Check.due("repeatsIn() with one leaf in each column, behind six", new Play(BARE, 1).plant(5).wall().repeatsIn(), 7);
+        Check.due("repeatsIn() with one leaf in each column, behind six",
+            new Play(BARE, 1).plant(5).wall().repeatsIn(), 7);
         Check.due("repeatsIn() with room for more", new Play(BARE, 5).plant(5).wall().repeatsIn(), 10);
     }
 
@@ -453,6 +521,14 @@ public final class EdgesOfAnswersTest {
         Check.due("bestCut() of one leaf, without which nothing is left",
             new Play(BARE, 5).plant(9).wall().bestCut(), 9);
         Check.due("bestCut() in the column 11", new Play(BARE, 5).plant(11).wall().bestCut(), 11);
+    }
+
+    private static void bestCutStaysDead() {
+        VineWall wall = new Play(BARE, 5).plant(1).grow(2).cut(2, 0).wall();
+        Check.due("row 2", Play.row(wall, 2), "x.##........");
+        Check.due("row 1", Play.row(wall, 1), "###.........");
+        Check.due("bestCut(): without (1, 1) five columns are lit; without (1, 0), which gets no leaf again, four",
+            wall.bestCut(), 13);
     }
 
     private static void lowestRow() {

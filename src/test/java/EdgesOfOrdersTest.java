@@ -63,6 +63,8 @@ public final class EdgesOfOrdersTest {
             () -> trellisOutOfRange(9, 10, Integer.MAX_VALUE));
         Check.edge("Promise 4: Returns what it bore before: 5 at first, the same when it is said again",
             EdgesOfOrdersTest::whatItBoreBefore);
+        Check.edge("Promise 4: Says what the trellis of a column bears: after the last generation too",
+            EdgesOfOrdersTest::trellisAtTheEnd);
     }
 
     private static void cut() {
@@ -163,7 +165,7 @@ public final class EdgesOfOrdersTest {
     }
 
     private static void sidesInTime() {
-        VineWall wall = new Play(ROUND, 5).plant(0, 5).cut(0, 5).wall();
+        VineWall wall = new Play(ROUND, 5).plant(0, 3, 5, 7).cut(0, 3).cut(0, 5).cut(0, 7).wall();
         wall.leavesNext();
         wall.repeatsIn();
         wall.sides(MIRROR);
@@ -203,6 +205,8 @@ public final class EdgesOfOrdersTest {
     }
 
     private static void plantOnACut() {
+        refused("plant(5) on the cell cut before the last generation", NOT_NOW,
+            () -> new Play(BARE, 5).plant(5).grow(59).cut(0, 5).wall(), wall -> wall.plant(5));
         refused("plant(5) on the cut cell", NOT_NOW,
             () -> new Play(BARE, 5).plant(5).cut(0, 5).wall(), wall -> wall.plant(5));
         refused("plant(9) on the cut cell", NOT_NOW, EdgesOfOrdersTest::underWay, wall -> wall.plant(9));
@@ -286,6 +290,14 @@ public final class EdgesOfOrdersTest {
         wall.plant(7);
         wall.grow();
         Check.due("trellis(7, 3) after more leaves than it bears", wall.trellis(7, 3), 1);
+    }
+
+    private static void trellisAtTheEnd() {
+        VineWall wall = new Play(BARE, 5).grow(60).plant(5).wall();
+        Check.due("leavesNext() with five borne", wall.leavesNext(), 4);
+        Check.due("trellis(5, 1)", wall.trellis(5, 1), 5);
+        Check.due("leavesNext() with one borne", wall.leavesNext(), 3);
+        Check.due("trellis(5, 5)", wall.trellis(5, 5), 1);
     }
 
     private static void cutInTheCorners() {

@@ -7,7 +7,7 @@ import java.util.Arrays;
 import java.util.Set;
 import java.util.TreeSet;
 
-/** The face of the class is the document's: each member with its types and its throws, and no other one. */
+/** The face is the document's: each member with its types and its throws, and no other one. Nothing static changes. */
 public final class FaceTest {
 
     private static final String[] FACE = {
@@ -32,7 +32,9 @@ public final class FaceTest {
         Check.due("the face", faceOf(VineWall.class), want);
         Check.due("the class is public and final",
             VineWall.class.getModifiers(), Modifier.PUBLIC | Modifier.FINAL);
+        staticsAreConstants(VineWall.class);
         for (Class<?> inside : VineWall.class.getDeclaredClasses()) {
+            staticsAreConstants(inside);
             Check.due(inside.getName() + " is static", Modifier.isStatic(inside.getModifiers()), true);
             Check.due(inside.getName() + " is public", Modifier.isPublic(inside.getModifiers()), false);
             Check.due(inside.getName() + " is protected", Modifier.isProtected(inside.getModifiers()), false);
@@ -71,6 +73,16 @@ public final class FaceTest {
             text.append(' ').append(thrown.getSimpleName());
         }
         face.add(text.toString());
+    }
+
+    /** What is static is shared by all walls: it must not be able to change. */
+    private static void staticsAreConstants(Class<?> type) {
+        for (Field field : type.getDeclaredFields()) {
+            if (Modifier.isStatic(field.getModifiers())) {
+                Check.due(field.getName() + " is final", Modifier.isFinal(field.getModifiers()), true);
+                Check.due(field.getName() + " is a number or a sign", field.getType().isPrimitive(), true);
+            }
+        }
     }
 
     private static void noPrivateMethodBearsAPublicName() {
