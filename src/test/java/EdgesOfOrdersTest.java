@@ -442,6 +442,8 @@ public final class EdgesOfOrdersTest {
         dueRow(wall, 0, "#..#..#..#..");
         wall.sides(ROUND);
         Check.due("holdersOf(1, 11)", wall.holdersOf(1, 11), 1);
+        Check.due("broken() behind a game of one generation",
+            new Play(BARE, 1).plant(0).grow(1).clear().wall().broken(), 0);
     }
 
     private static void clearAfterTheEnd() {
